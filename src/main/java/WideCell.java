@@ -40,7 +40,7 @@ public final class WideCell {
 
     private final Ranges ranges;
     private final Table idealTable;
-    private final Copy[] keepers;
+    private final Keeper[] keepers;
     private final Comparison comparison;
     private int now;
     private int grace;
@@ -49,9 +49,9 @@ public final class WideCell {
     public WideCell() {
         ranges = new Ranges();
         idealTable = new Table(ranges);
-        keepers = new Copy[COPIES];
+        keepers = new Keeper[COPIES];
         for (int copy = 0; copy < COPIES; copy++) {
-            keepers[copy] = new Copy(new Table(ranges));
+            keepers[copy] = new Keeper(new Table(ranges));
         }
         comparison = new Comparison();
         now = 0;
@@ -109,7 +109,7 @@ public final class WideCell {
     // ---- copies and time
 
     public int setUp(int copy, boolean isUp) throws IndexOutOfBoundsException {
-        Copy keeper = keeperOf(copy);
+        Keeper keeper = keeperOf(copy);
         return isUp ? keeper.comeUp() : keeper.goDown();
     }
 
@@ -163,7 +163,7 @@ public final class WideCell {
     }
 
     public int clean(int copy) throws IndexOutOfBoundsException, IllegalStateException {
-        Copy keeper = keeperOf(copy);
+        Keeper keeper = keeperOf(copy);
         requireState(keeper.isRunning);
         // The order matters: a tombstone that is too old still drops what it covers.
         int covered = keeper.table.dropCovered();
@@ -292,7 +292,7 @@ public final class WideCell {
         requireState(keeperOf(copy).isRunning && keeperOf(other).isRunning);
     }
 
-    private Copy keeperOf(int copy) {
+    private Keeper keeperOf(int copy) {
         requireIndex(isWithin(copy, COPIES - 1));
         return keepers[copy];
     }
@@ -360,12 +360,12 @@ public final class WideCell {
     }
 
     /** A copy that can be asked for: its table, whether it is up, and the hints that wait for it. */
-    private static final class Copy {
+    private static final class Keeper {
         private final Table table;
         private final ArrayList<Change> waiting = new ArrayList<Change>();
         private boolean isRunning = true;
 
-        Copy(Table table) {
+        Keeper(Table table) {
             this.table = table;
         }
 
