@@ -37,6 +37,29 @@ enum Calls {
         this.kinds = kinds;
     }
 
+    /** Arguments that are taken on most objects; two copies are 0 and 1, two rows are the same. */
+    int[] usual() {
+        int[] arguments = new int[kinds.length()];
+        for (int i = 0; i < arguments.length; i++) {
+            arguments[i] = usualOf(kinds.charAt(i));
+        }
+        if (kinds.startsWith("kk")) {
+            arguments[1] = 1;
+        }
+        return arguments;
+    }
+
+    private static int usualOf(char kind) {
+        switch (kind) {
+            case 'c': return 7;
+            case 'r': return 3;
+            case 's': return 600;
+            case 'o': return 4;
+            case 'k': case 'l': return 0;
+            default: return 1;
+        }
+    }
+
     /** A boolean counts 1 or 0. */
     int answer(WideCell x, int[] a) {
         switch (this) {

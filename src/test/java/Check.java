@@ -2,8 +2,14 @@
 final class Check {
     private static int passed = 0;
     private static int failed = 0;
+    private static String subject = "";
 
     private Check() {
+    }
+
+    /** What the checks that follow are about; it stands ahead of each failure. */
+    static void about(String what) {
+        subject = what;
     }
 
     static void same(String what, Object want, Object got) {
@@ -11,7 +17,7 @@ final class Check {
             passed++;
         } else {
             failed++;
-            System.out.println("FAILED " + what + ": due is " + want + ", answered is " + got);
+            System.out.println("FAILED " + subject + what + ": due is " + want + ", answered is " + got);
         }
     }
 
@@ -40,7 +46,7 @@ final class Check {
     }
 
     /** The exact name counts: what the machine throws is often a subclass of what is due. */
-    private static String outcomeOf(Runnable call) {
+    static String outcomeOf(Runnable call) {
         try {
             call.run();
             return "nothing thrown";
