@@ -1,3 +1,4 @@
+import java.io.File;
 import java.io.IOException;
 import java.nio.file.Files;
 import java.nio.file.Path;
@@ -94,13 +95,16 @@ public final class BreaksRun {
             return name + "is no Java";
         }
         String printed = printedByTests(folder);
-        return printed.contains("FAILED " + one.section + " says \"" + one.words + "\": ") ? ""
-                : name + "its test does not fail; printed was:\n" + printed.substring(0, Math.min(600, printed.length()));
+        if (printed.contains("FAILED " + one.section + " says \"" + one.words + "\": ")) {
+            return "";
+        }
+        String beginning = printed.substring(0, Math.min(600, printed.length()));
+        return name + "its test does not fail; printed was:\n" + beginning;
     }
 
     private String printedByTests(Path folder) throws IOException, InterruptedException {
         Path out = folder.resolve("out.txt");
-        String path = folder + java.io.File.pathSeparator + tests;
+        String path = folder + File.pathSeparator + tests;
         Process process = new ProcessBuilder("java", "-XX:TieredStopAtLevel=1", "-cp", path, "EdgesTest", "", document)
                 .redirectErrorStream(true).redirectOutput(out.toFile()).start();
         process.waitFor();

@@ -13,8 +13,8 @@ final class SumsEdges {
     // ---- sums of rows
 
     static void sumOfAnEntry() {
-        Doc.says(SUMS, "for the entry of each cell of the row, 31 times the stamp, 7 times the value, the end, or 20000 "
-                + "for NEVER, and the column, together, and 1 more");
+        Doc.says(SUMS, "for the entry of each cell of the row, 31 times the stamp, 7 times the value, the end, or "
+                + "20000 for NEVER, and the column, together, and 1 more");
         // A column, a value, a stamp and a life, written at first and at the last time, and their sums.
         int[][] entries = {
             {0, 0, 0, 1, 1 + 1, 10001 + 1}, {3, 0, 0, 1, 1 + 3 + 1, 10001 + 3 + 1},
@@ -170,8 +170,8 @@ final class SumsEdges {
     // ---- nodes
 
     static void rowsOfANode() {
-        Doc.says(SUMS, "A node of the level n, 0 to 4, has 16 / 2 to the power of n rows, the node i of a level from the "
-                + "row i times that on");
+        Doc.says(SUMS, "A node of the level n, 0 to 4, has 16 / 2 to the power of n rows, the node i of a level from "
+                + "the row i times that on");
         int[] sizes = {16, 8, 4, 2, 1};
         for (int row = 0; row < 16; row++) {
             WideCell x = new WideCell();
@@ -284,8 +284,8 @@ final class SumsEdges {
     }
 
     static void allOfEachRowThatDiffered() {
-        Doc.says(SUMS, "then for each row whose sums differed, each copy takes all entries of the row, and all tombstones "
-                + "that cover some cell of it, of the other one.");
+        Doc.says(SUMS, "then for each row whose sums differed, each copy takes all entries of the row, and all "
+                + "tombstones that cover some cell of it, of the other one.");
         WideCell x = new WideCell();
         for (int column = 0; column < 4; column++) {
             x.write(1 << column % 2, 15, column, column, 7, column % 2);
